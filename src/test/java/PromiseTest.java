@@ -269,6 +269,14 @@ public final class PromiseTest {
         faulty(seven + "t0,1;", 3, 57);
         faulty(seven + "n", 1, 57);
         faulty(seven + "9", 1, 57);
+        faulty("nw0,0;w0,0;w0,0;d0,1;", 1, 1);
+        faulty(law + "wwwd0,1;", 1, 8);
+        faulty(three + "dd0,1;", 1, 23);
+        NightLevel y = new NightLevel();
+        tell(y, three + "d0,1;");
+        y.site();
+        tell(y, three);
+        due("no byte of the tape before", y.site(), -1000122);
     }
 
     private static void fault() {
@@ -278,7 +286,7 @@ public final class PromiseTest {
         x.site();
         due("a NUMBER", x.fault(), 2);
         tell(x, FIRM);
-        x.site();
+        due("a good one behind it", x.site(), 1);
         due("the latest one", x.fault(), 2);
         x.site();
         due("another", x.fault(), 1);
@@ -664,6 +672,8 @@ public final class PromiseTest {
         due("no SITE, ahead of BAD", new NightLevel().plan(25, -2), STATE);
         NightLevel all = at("n0,9,9;w0,0;w60,0;w60,0;d0,20;d0,20;d0,14;d0,3;d0,1;d0,1;d0,1;");
         row(all, 0, 0, 1, 2, 3, 4, 5, 6);
+        all.amount(2, 13);
+        due("NONE of all rows", all.plan(0, -1), NONE);
         row(at("n0,0,1;w10,0;w10,0;w12,0;u0,1;u0,3;"), 0, 1, 0);
     }
 
@@ -689,6 +699,7 @@ public final class PromiseTest {
         boardsAre(at("n0,9,1;w28,1;w30,0;w30,0;d0,1;"), 1, NONE, NONE, NONE, NONE);
         boardsAre(at("n0,2,1;w30,2;w30,2;w30,5;d0,1;"), 1, 1, 0, 0, 1);
         boardsAre(at("n0,2,1;w30,9;w30,9;w24,0;d0,1;"), 1, 2, 1, 1, 0);
+        boardsAre(at("n9,0,1;w31,1;w30,1;w30,0;d0,1;"), 1, 1, 0, 1, 0);
         due("n 0", x.boards(0, -1), BAD);
         due("n 25", x.boards(25, -1), BAD);
         due("j -2", x.boards(1, -2), BAD);
@@ -710,6 +721,8 @@ public final class PromiseTest {
         liftIs(at("n0,0,1;w10,0;w16,0;w9,0;d0,1;"), 6 + 7, 6, 0, 7);
         liftIs(at("n9,0,1;w10,0;w10,0;w11,0;d0,1;"), 2, 0, 2, 0);
         liftIs(at("n0,0,1;w10,0;w30,0;w30,0;d0,1;"), 20, 20, 0, 0);
+        liftIs(at("n0,0,1;w30,0;w10,0;w30,0;d0,1;"), 20, 0, 20, 0);
+        liftIs(at("n0,0,1;w30,0;w30,0;w10,0;d0,1;"), 20, 0, 0, 20);
         liftIs(at("n0,0,1;w10,0;w31,0;w31,0;d0,1;"), NONE, NONE, NONE, NONE);
         liftIs(at("n1,1,1;w10,0;w31,0;w10,0;d0,1;"), 20 + 19, 20, 0, 19);
         liftIs(at("n0,0,1;w0,0;w0,0;w60,0;d0,1;"), NONE, NONE, NONE, NONE);
