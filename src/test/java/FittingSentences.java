@@ -41,6 +41,14 @@ final class FittingSentences extends Probe {
         refused(Probe::busy, BAD, asked(call, 1, 2, 0, 0, 1), asked(call, 1, 0, 8, 0, 1), asked(call, 1, 0, 0, 0, 13));
     }
 
+    /** All FEET at 99, HOUR 1 of RAIN 9, a DEED that lifts by 20. */
+    private static NightLevel atTheTop() {
+        NightLevel x = at("n0,0,9;w60,0;w60,0;w60,0;d0,20;");
+        for (int i = 0; i < 9; i++) x.jack(i % 3, 13);
+        x.hours(1);
+        return x;
+    }
+
     // ---- 28
 
     @Says(promise = 28, sentence = "KINDS by SIDE (which = 0), ALONG (1), n ITEMS of a ROW from i on.")
@@ -83,6 +91,33 @@ final class FittingSentences extends Probe {
         // FOOT 0 is 4 higher: SIDE 7 less 4; it does not rain in HOUR 1, so that sunk fits, too.
         x.set(0, 0, 3);
         due("upon what is DONE", x.who(0, 0, 0, 0, 1), 1 << 1 | 1 << 3);
+    }
+
+    @Says(promise = 28, sentence = "or have a LANE (0 bytes, 1 shorts, 2 ints)")
+    static void rowsOfEachLaneAreRead() {
+        for (int lane = 0; lane < 3; lane++) {
+            NightLevel x = at(ASIDE);
+            x.row(7, lane, 40);
+            x.set(7, 38, -1);
+            x.set(7, 39, -1);
+            due("the last two, LANE " + lane, x.who(0, 0, 7, 38, 2), 1 << 1);
+            x.set(7, 39, 255);
+            due("255, LANE " + lane, x.who(0, 0, 7, 38, 2), lane == 0 ? 1 << 1 : 0);
+        }
+    }
+
+    @Says(promise = 28, sentence = "HEIGHT is 0 to 99 always (cut at once)")
+    static void kindsAreCutAtNinetyNine() {
+        // HOUR 1, so that it does not rain: at 99 no KIND makes SIDE another.
+        NightLevel x = atTheTop();
+        x.row(0, 0, 1);
+        due("all five", x.who(0, 0, 0, 0, 1), 62);
+    }
+
+    @Says(promise = 28, sentence = "SOFT 0 to 9.")
+    static void kindsDoNotSinkByMoreThanNine() {
+        due("sunk as driven", withRow("n0,9,1;w50,9;w60,9;w55,0;d0,10;", 0, 0).who(0, 0, 0, 0, 2), 1 << 1 | 1 << 3);
+        due("not at 8", withRow("n0,9,1;w50,8;w60,8;w55,0;d0,10;", 0, 0).who(0, 0, 0, 0, 2), 1 << 1);
     }
 
     @Says(promise = 28, sentence = "BAD: DEED, which, ROW, n;")
@@ -144,6 +179,13 @@ final class FittingSentences extends Probe {
         missingRowTold("feet");
         noPlaceOfARowTold("feet");
         deedIsDone("feet");
+    }
+
+    @Says(promise = 29, sentence = "HEIGHT is 0 to 99 always (cut at once)")
+    static void feetAreCutAtNinetyNine() {
+        NightLevel x = atTheTop();
+        x.row(0, 0, 1);
+        due("all three", x.feet(0, 0, 0, 0, 1), 7);
     }
 
     @Says(promise = 29, sentence = "FORETOLD (nothing changes).")
@@ -252,6 +294,14 @@ final class FittingSentences extends Probe {
         chance(x, 10, 0, 1);
     }
 
+    @Says(promise = 31, sentence = "HEIGHT is 0 to 99 always (cut at once)")
+    static void likelihoodIsCutAtOnce() {
+        chance(atTheTop(), 5, 1, 1);
+        // The nose, at 3, is lowered to 0, not to -17; lifted by 2 then it is LEVEL.
+        chance(at("n0,0,1;w2,0;w2,0;w3,0;u0,20;d2,2;"), 0, 1, 1);
+        chance(at("n0,0,1;w2,0;w2,0;w3,0;u0,20;d2,2;"), 1, 81, 100);
+    }
+
     @Says(promise = 31, sentence = "BAD; STATE: no SITE (ahead of BAD).")
     static void noSuchWrong() {
         refused(Probe::busy, BAD, x -> x.wrong(-1, 0), x -> x.wrong(11, 0), x -> x.wrong(LEAST, 0), x -> x.wrong(MOST, 1),
@@ -335,6 +385,21 @@ final class FittingSentences extends Probe {
         NightLevel y = at(DRAWN);
         y.perform(1);
         due("none of them", y.drawn(2, 1, 0), 1 + 0);
+    }
+
+    @Says(promise = 32, sentence = "HEIGHT is 0 to 99 always (cut at once)")
+    static void nightsAreCutAtOnce() {
+        due("at 99", atTheTop().drawn(9, 1, 0), 0);
+        due("at 99", atTheTop().drawn(9, 1, 1), 9);
+        due("at 0", at("n0,0,1;w5,9;w5,8;w5,5;u0,20;").drawn(60, 1, 0), 0);
+        due("at 0", at("n0,0,1;w5,9;w5,8;w5,5;u0,20;").drawn(60, 1, 1), 60);
+    }
+
+    @Says(promise = 32, sentence = "SOFT 0 to 9.")
+    static void nightsDoNotSinkByMoreThanNine() {
+        // 49 less 9, 40 less 9: SIDE 9, MIDDLE 35; then SIDE 9, MIDDLE 26.
+        due("behind 1", at("n9,9,1;w40,9;w40,9;w30,0;s0,9;").drawn(1, 1, 0), 9 + 5);
+        due("behind 2", at("n9,9,1;w40,9;w40,9;w30,0;s0,9;").drawn(2, 1, 0), 9 + 4);
     }
 
     @Says(promise = 32, sentence = "FORETOLD (nothing changes).")

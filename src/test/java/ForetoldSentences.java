@@ -4,6 +4,13 @@ final class ForetoldSentences extends Probe {
     /** RAIN 9; SIDE sinks by 1 at each, up to EGG 6 it is LEVEL. */
     private static final String SLOW = "n6,9,9;w60,1;w60,0;w60,0;d0,1;";
 
+    /** All FEET at 99, on ground that holds. */
+    private static NightLevel atTheTop(String deeds) {
+        NightLevel x = at("n0,0,1;w60,0;w60,0;w60,0;" + deeds);
+        for (int i = 0; i < 9; i++) x.jack(i % 3, 13);
+        return x;
+    }
+
     // ---- 18
 
     @Says(promise = 18, sentence = "AHEAD: HEIGHT.")
@@ -88,6 +95,17 @@ final class ForetoldSentences extends Probe {
         due("61", x.leanAhead(61, 0), BAD);
     }
 
+    @Says(promise = 19, sentence = "HEIGHT is 0 to 99 always (cut at once)")
+    static void leanAheadOfFeetAtTheBottom() {
+        NightLevel x = at("n0,0,1;w10,9;w20,9;w5,0;d0,1;");
+        // 1, 11; 0, 2; 0, 0.
+        int[][] both = {{-10, -10}, {-10, -1}, {-2, 4}, {0, 5}, {0, 5}};
+        for (int n = 0; n < both.length; n++) {
+            due("SIDE behind " + n, x.leanAhead(n, 0), 1000 + both[n][0]);
+            due("ALONG behind " + n, x.leanAhead(n, 1), 1000 + both[n][1]);
+        }
+    }
+
     @Says(promise = 19, sentence = "BAD; STATE: no SITE (ahead of BAD).")
     static void noSuchLeanAhead() {
         refused(Probe::busy, BAD, x -> x.leanAhead(-1, 0), x -> x.leanAhead(61, 0), x -> x.leanAhead(LEAST, 0),
@@ -139,6 +157,11 @@ final class ForetoldSentences extends Probe {
         due("sunk to the bottom", at("n0,0,1;w0,9;w0,9;w0,9;d0,1;").lasts(), 61);
     }
 
+    @Says(promise = 20, sentence = "HEIGHT is 0 to 99 always (cut at once)")
+    static void atTheBottomItStaysLevel() {
+        due("all at 0 behind 1", at("n0,0,1;w5,9;w5,8;w5,5;d0,1;").lasts(), 61);
+    }
+
     @Says(promise = 20, sentence = "FORETOLD (nothing changes).")
     static void lastsChangesNothing() {
         quiet(Probe::busy, x -> x.lasts(), x -> x.lasts());
@@ -175,6 +198,11 @@ final class ForetoldSentences extends Probe {
         due("it leaps over", at("n0,9,1;w6,2;w5,0;w5,0;d0,1;").first(), NONE);
     }
 
+    @Says(promise = 21, sentence = "HEIGHT is 0 to 99 always (cut at once)")
+    static void atTheBottomItIsLevel() {
+        due("all at 0 behind 1", at("n0,0,1;w5,9;w4,8;w3,5;d0,1;").first(), 1);
+    }
+
     @Says(promise = 21, sentence = "FORETOLD (nothing changes).")
     static void firstChangesNothing() {
         quiet(Probe::busy, x -> x.first(), x -> x.first());
@@ -201,14 +229,14 @@ final class ForetoldSentences extends Probe {
             due("TRY of " + deed, x.attempt(deed), awry[deed]);
             due("and DONE", at(FIVE).perform(deed), awry[deed]);
         }
-        NightLevel high = at("n0,0,1;w60,0;w60,0;w60,0;d0,20;u0,20;");
-        for (int i = 0; i < 3; i++) {
-            high.jack(0, 13);
-            high.jack(1, 13);
-            high.jack(2, 13);
-        }
-        due("cut at 99", high.attempt(0), 0);
-        due("cut at 0", at("n0,0,1;w5,0;w5,0;w5,0;u0,20;").attempt(0), 5);
+    }
+
+    @Says(promise = 22, sentence = "HEIGHT is 0 to 99 always (cut at once)")
+    static void tryIsCut() {
+        due("at 99", atTheTop("d0,20;").attempt(0), 0);
+        due("at 99", atTheTop("o2,20;").attempt(0), 0);
+        due("at 0", at("n0,0,1;w0,0;w0,0;w0,0;u0,20;").attempt(0), 0);
+        due("at 0", at("n0,0,1;w5,0;w5,0;w9,0;t0,20;").attempt(0), 5);
     }
 
     @Says(promise = 22, sentence = "FORETOLD (nothing changes).")
@@ -265,6 +293,13 @@ final class ForetoldSentences extends Probe {
         refused(Probe::nowhere, STATE, x -> x.best(0), x -> x.best(1), x -> x.best(-1), x -> x.best(2));
     }
 
+    @Says(promise = 23, sentence = "HEIGHT is 0 to 99 always (cut at once)")
+    static void bestIsCut() {
+        NightLevel x = atTheTop("u0,1;d0,20;");
+        due("which", x.best(0), 1);
+        due("AWRY", x.best(1), 0);
+    }
+
     @Says(promise = 23, sentence = "FORETOLD (nothing changes).")
     static void bestChangesNothing() {
         quiet(Probe::busy, x -> x.best(0), x -> x.best(1));
@@ -314,8 +349,11 @@ final class ForetoldSentences extends Probe {
         done.perform(0);
         due("what is DONE is none of them", done.plan(0, -1), NONE);
         row(at("n0,0,1;w10,0;w10,0;w12,0;u0,1;u0,3;"), 0, 1, 0);
-        NightLevel order = at("n0,1,2;w8,2;w12,1;w9,0;t0,4;s0,4;o1,3;");
-        row(order, 0, 1, 0);
+        // In an order that is not by numbers: the wheels must be changed first.
+        row(at("n0,1,2;w8,2;w12,1;w9,0;t0,4;s0,4;o1,3;"), 0, 1, 0);
+        row(at("n0,9,1;w10,0;w14,0;w14,0;d2,20;d1,4;t0,1;"), 0, 2, 1);
+        row(at("n0,9,1;w10,0;w14,0;w14,0;d2,20;s1,4;o2,20;d2,20;t0,1;"), 0, 4, 1);
+        row(at("n0,9,1;w10,0;w14,0;w14,0;d2,20;d1,2;o1,2;t0,1;"), 0, 3, 1, 2);
     }
 
     @Says(promise = 24, sentence = "of several rows the first (DEED by DEED)")
@@ -342,12 +380,19 @@ final class ForetoldSentences extends Probe {
         row(high, 24, 0);
     }
 
+    @Says(promise = 24, sentence = "SOFT 0 to 9.")
+    static void planDoesNotSinkByMoreThanNine() {
+        row(at("n0,9,1;w50,9;w60,9;w55,9;s0,10;"), 1, 0);
+        row(at("n0,9,1;w50,8;w60,8;w55,8;d0,3;s0,10;s0,11;"), 1, 2);
+    }
+
     @Says(promise = 24, sentence = "how many; the k-th of the row; NONE.")
     static void noRowIsLevel() {
         NightLevel x = at("n0,0,1;w10,0;w60,0;w13,0;d0,4;d0,2;d2,3;d0,6;");
         due("how many", x.plan(0, -1), NONE);
         due("the 0-th", x.plan(0, 0), NONE);
         due("by far", x.plan(24, MOST), NONE);
+        due("of seven", at("n0,0,1;w0,0;w60,0;w60,0;u0,1;d2,2;t0,3;o0,4;t0,5;s1,6;d0,7;").plan(0, -1), NONE);
         NightLevel y = at("n0,0,1;w6,0;w5,0;w5,0;d0,1;");
         y.perform(0);
         due("all are DONE", y.plan(0, -1), NONE);
@@ -437,6 +482,13 @@ final class ForetoldSentences extends Probe {
         boardsAre(at("n9,0,1;w31,1;w30,1;w30,0;d0,1;"), 1, 1, 0, 1, 0);
         // MIDDLE is to be one higher: 0 2 0 is ahead of 1 1 0 and 2 0 0.
         boardsAre(at("n9,0,1;w30,3;w30,3;w28,0;d0,1;"), 1, 2, 0, 2, 0);
+    }
+
+    @Says(promise = 25, sentence = "HEIGHT is 0 to 99 always (cut at once)")
+    static void boardsForFeetAtTheBottom() {
+        boardsAre(at("n0,9,1;w5,9;w4,9;w0,0;d0,1;"), 1, 0, 0, 0, 0);
+        // 0 by 9 less; with two boards FOOT 0 stands at 1, as FOOT 1 does.
+        boardsAre(at("n0,9,1;w8,9;w1,0;w0,0;d0,1;"), 1, 2, 2, 0, 0);
     }
 
     @Says(promise = 25, sentence = "BOARDS for n HOURS (1 to 24)")
@@ -566,6 +618,13 @@ final class ForetoldSentences extends Probe {
         due("60", x.worst(60, 1), 60);
         due("61", x.worst(61, 0), BAD);
         due("-1", x.worst(-1, 0), BAD);
+    }
+
+    @Says(promise = 27, sentence = "HEIGHT is 0 to 99 always (cut at once)")
+    static void atTheBottomItGetsNoWorse() {
+        NightLevel x = at("n0,0,1;w5,9;w4,9;w0,0;d0,1;");
+        due("AWRY", x.worst(60, 0), 1 + 4);
+        due("now", x.worst(60, 1), 0);
     }
 
     @Says(promise = 27, sentence = "BAD; STATE: no SITE (ahead of BAD).")
