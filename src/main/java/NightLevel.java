@@ -794,11 +794,11 @@ public final class NightLevel {
 
         int bestDeed(Site site) {
             int bestOne = NONE;
-            int least = Integer.MAX_VALUE;
+            int least = 0;
             for (int deed = 0; deed < site.deedCount; deed++) {
                 if (site.isDone(deed)) continue;
                 int awry = awryIf(site, deed);
-                if (awry < least) {
+                if (bestOne == NONE || awry < least) {
                     least = awry;
                     bestOne = deed;
                 }

@@ -62,6 +62,24 @@ public final class LanguageTest {
         rule(1, Modifier.isPublic(modifiers) && Modifier.isFinal(modifiers), "the class is public and final");
     }
 
+    /** The face as the document writes it; its constants with their values. */
+    private static void faceOfTheDocument(String document) throws IllegalAccessException {
+        Set<String> told = new TreeSet<>();
+        Matcher method = Pattern.compile("    public (int |long |)([a-zA-Z]+)\\(([^)]*)\\);").matcher(document);
+        while (method.find()) {
+            String types = method.group(3).replaceAll("([a-z]+) [a-z]+", "$1").replace(" ", "");
+            told.add(method.group(2) + "(" + types + ")" + method.group(1).trim());
+        }
+        rule(1, told.equals(new TreeSet<>(Arrays.asList(FACE.split(" ")))), "the document's face is " + told);
+        Set<String> constants = new TreeSet<>();
+        for (Field f : NightLevel.class.getDeclaredFields()) {
+            if (Modifier.isPublic(f.getModifiers())) constants.add(f.getName() + " = " + f.getInt(null));
+        }
+        Matcher line = Pattern.compile("    public static final int ([^;]*);").matcher(document);
+        boolean isTold = line.find() && constants.equals(new TreeSet<>(Arrays.asList(line.group(1).split(", "))));
+        rule(1, isTold, "the constants are " + constants);
+    }
+
     private static Set<String> publicNames() {
         Set<String> names = new TreeSet<>();
         for (String one : FACE.split(" ")) names.add(one.substring(0, one.indexOf('(')));
@@ -110,10 +128,14 @@ public final class LanguageTest {
             Matcher found = Pattern.compile(isWord ? around + "\\b" : around).matcher(code);
             rule(6, !found.find(), "the text has " + word);
         }
-        Matcher library = Pattern.compile("\\b([A-Z][A-Za-z]*)\\.([a-zA-Z]+)\\s*\\(").matcher(code);
+        Set<String> own = new TreeSet<>(Set.of("NightLevel"));
+        for (Class<?> type : NightLevel.class.getDeclaredClasses()) own.add(type.getSimpleName());
         Set<String> allowed = Set.of("System.arraycopy", "Math.abs", "Math.max", "Math.min", "Integer.bitCount");
+        // With what stands behind its dot, call or constant, so that a bare name of the library shows, too.
+        Matcher library = Pattern.compile("\\b([A-Z][a-z][A-Za-z]*)\\b(\\.[a-zA-Z_]+)?").matcher(code);
         while (library.find()) {
-            rule(4, allowed.contains(library.group(1) + "." + library.group(2)), "the text calls " + library.group());
+            boolean isKept = own.contains(library.group(1)) || allowed.contains(library.group());
+            rule(4, isKept, "the text uses " + library.group());
         }
         rule(4, !code.contains("import "), "the text imports");
     }
@@ -130,9 +152,11 @@ public final class LanguageTest {
         for (String line : lines) rule(0, line.length() <= 120, "a line that is too long: " + line);
     }
 
-    public static void main(String[] args) throws IOException {
+    public static void main(String[] args) throws IOException, IllegalAccessException {
         Path path = Path.of("src/main/java/NightLevel.java");
+        Path document = Path.of("../shared/DOC.md");
         face();
+        if (Files.exists(document)) faceOfTheDocument(Files.readString(document));
         classes();
         words(Files.readString(path));
         lengths(Files.readAllLines(path));

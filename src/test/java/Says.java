@@ -9,6 +9,6 @@ import java.lang.annotation.Target;
 @interface Says {
     int promise();
 
-    /** Stands in that promise's section, or in the document's Terms. */
+    /** Stands in that promise's section, or in the document's Terms, or in what it begins with. */
     String sentence();
 }

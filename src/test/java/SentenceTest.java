@@ -12,8 +12,8 @@ import java.util.List;
  * whether the document has words that no test stands for.
  */
 public final class SentenceTest {
-    private static final Class<?>[] TESTS = {RowSentences.class, TapeSentences.class, DoneSentences.class,
-        ForetoldSentences.class, FittingSentences.class, AskedSentences.class};
+    private static final Class<?>[] TESTS = {NightSentences.class, RowSentences.class, TapeSentences.class,
+        DoneSentences.class, ForetoldSentences.class, FittingSentences.class, AskedSentences.class};
     private static final Path DOCUMENT = Path.of("../shared/DOC.md");
     private static final int TERMS = 0, PROMISES = 40;
     /** What heads a part of the document, and promises nothing. */
@@ -55,8 +55,7 @@ public final class SentenceTest {
 
     private static String[] parts(String document) {
         String[] all = new String[PROMISES + 1];
-        String calls = "An object is used";
-        all[TERMS] = calls + part(document, calls, "## The public face") + part(document, "## Terms", "## Promise 1:");
+        all[TERMS] = part(document, "## What it is", "## The public face") + part(document, "## Terms", "## Promise 1:");
         for (int n = 1; n <= PROMISES; n++) {
             String next = n < PROMISES ? "## Promise " + (n + 1) + ":" : "## Not promised";
             all[n] = part(document, "## Promise " + n, next);
@@ -90,7 +89,7 @@ public final class SentenceTest {
             String words = left[n].toString().replaceAll(HEADS, " ");
             if (parts[n].isEmpty() || words.matches(".*[A-Za-z0-9].*")) {
                 wrong++;
-                System.out.println((n == TERMS ? "Terms" : "promise " + n) + ": no test stands for: " + words);
+                System.out.println((n == TERMS ? "what it is, Terms" : "promise " + n) + ": no test stands for: " + words);
             }
         }
     }
